@@ -111,12 +111,22 @@ public final class BellsThievesBagsTest {
         Check.due("P16 back", x.thief(28, 6, 2), 4);
         Check.due("P16 across", x.thief(4, 4, 2), 1);
         Check.due("P16 out at once", x.thief(31, 2, 2), 1);
+        x.set(1, 0, 32);
+        x.set(1, 1, 1);
+        Check.go(x, "Bf1");
+        x.set(1, 0, 0);
+        Check.due("P16 two KINDS in one cell", x.thief(24, 2, 2), 8);
+        x.set(0, 0, 24);
+        x.set(0, 1, 2);
+        Check.go(x, "Af7");
+        x.set(0, 0, 0);
+        Check.due("P16 as many as there are", x.thief(24, 2, 2), 15);
         x.set(2, 0, 30);
         x.set(3, 0, 29);
         x.set(3, 5, 1);
         Check.due("P16 the minute", x.thief(24, 2, 0), 4);
         Check.due("P16 by whom", x.thief(24, 2, 1), 3);
-        Check.due("P16 without the last cell", x.thief(24, 2, 2), 3);
+        Check.due("P16 without the last cell", x.thief(24, 2, 2), 7);
         x.set(2, 5, 2);
         Check.due("P16 the least of two", x.thief(24, 2, 1), 2);
         x.set(1, 0, 31);
@@ -124,7 +134,7 @@ public final class BellsThievesBagsTest {
         Check.due("P16 caught at once", x.thief(24, 2, 0), 0);
         Check.due("P16 caught at once by", x.thief(24, 2, 1), 1);
         Check.due("P16 with nothing", x.thief(24, 2, 2), 0);
-        Check.due("P16 nothing is taken", x.told(10), 7);
+        Check.due("P16 nothing is taken", x.told(10), 15);
     }
 
     private static void thiefRefused() {
