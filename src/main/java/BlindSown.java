@@ -536,8 +536,9 @@ public final class BlindSown {
         }
 
         void take(int cell, int kind) {
-            if (isCell(cell) && isKind(kind)) {
-                grains[cell * KINDS + kind]++;
+            int at = cell * KINDS + kind;
+            if (at >= 0 && at < CELLS * KINDS) {
+                grains[at]++;
             }
         }
 
@@ -618,7 +619,7 @@ public final class BlindSown {
         int count;
 
         void take(int cell, int kind) {
-            if (plan != null && isCell(cell) && plan.rows[cell] != kind) {
+            if (plan != null && cell >= 0 && cell < CELLS && plan.rows[cell] != kind) {
                 count++;
             }
         }
@@ -824,7 +825,7 @@ public final class BlindSown {
             for (int i = 0; i < postCount; i++) {
                 int apart = cellsApart(one.place, posts[i]);
                 boolean better = apart < bestApart || (apart == bestApart && posts[i] < best);
-                if (better && one.hears(posts[i])) {
+                if (better && apart <= one.ear) {
                     best = posts[i];
                     bestApart = apart;
                 }
@@ -913,29 +914,24 @@ public final class BlindSown {
             }
         }
 
+        /** Grains only ever add up, so a trial that is no better than the best is given up. */
         private void tryPosts(int posts, int one, int two, Land land, Pad pad) {
             crew.copySowersFrom(land.crew);
             crew.posts[0] = one;
             crew.posts[1] = two;
             crew.postCount = posts;
-            int strays = straysBelow(fewest, pad);
-            if (strays < fewest) {
-                fewest = strays;
-                first = one;
-                second = two;
-            }
-        }
-
-        /** Grains only ever add up, so a trial that has reached the limit is given up. */
-        private int straysBelow(int limit, Pad pad) {
-            tally.count = 0;
             crew.going = NONE;
-            for (int at = 0; at < pad.count && tally.count < limit; at++) {
+            tally.count = 0;
+            for (int at = 0; at < pad.count && tally.count < fewest; at++) {
                 if (pad.startsPart(at)) {
                     crew.goPart(pad, at, tally);
                 }
             }
-            return tally.count;
+            if (tally.count < fewest) {
+                fewest = tally.count;
+                first = one;
+                second = two;
+            }
         }
     }
 
